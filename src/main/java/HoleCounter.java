@@ -489,8 +489,6 @@ public final class HoleCounter {
 
     /** Independent rows modulo 2. Only the lowest bits count; a tag above them tells of what a row is the sum. */
     private static final class Span {
-        private static final long COUNTED = (1L << MOST) - 1;
-
         private final long[] rows;
 
         Span() {
@@ -515,7 +513,7 @@ public final class HoleCounter {
         boolean take(long row) {
             long left = reduced(row);
             for (int bit = 0; bit < MOST; bit++) {
-                if ((left & COUNTED) != 0 && (left >> bit & 1) != 0) {
+                if ((left >> bit & 1) != 0) {
                     rows[bit] = left;
                     return true;
                 }
@@ -606,7 +604,8 @@ public final class HoleCounter {
             for (int row = 0; row < rows; row++) {
                 for (int column = 0; column < columns; column++) {
                     int at = row * SIDE + column;
-                    work[at] = Math.floorMod(cells[at], modulus);
+                    int rest = cells[at] % modulus;
+                    work[at] = rest < 0 ? rest + modulus : rest;
                 }
             }
         }
