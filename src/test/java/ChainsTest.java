@@ -1,6 +1,5 @@
 /** Promises 11 to 14: put, get, boundary and order. */
 public final class ChainsTest {
-    private static final int[] NO_COMPLEX = {-1, 2, Integer.MIN_VALUE, Integer.MAX_VALUE};
     private static final int[] NO_SIMPLEX = {0, -1, 8, 256, 263, 31, Integer.MIN_VALUE, Integer.MAX_VALUE};
 
     private static final Check CHECK = new Check("ChainsTest");
@@ -39,7 +38,7 @@ public final class ChainsTest {
     private static void putRefusals() {
         HoleCounter x = Spaces.with(new int[] {7});
         x.put(0, 7, 3);
-        for (int c : NO_COMPLEX) {
+        for (int c : Outside.COMPLEXES) {
             CHECK.due("put in complex " + c, x.put(c, 7, 1), false);
             CHECK.due("get in complex " + c, x.get(c, 7), 0);
         }
@@ -47,7 +46,7 @@ public final class ChainsTest {
             CHECK.due("put for " + set, x.put(0, set, 1), false);
             CHECK.due("get for " + set, x.get(0, set), 0);
         }
-        for (int number : new int[] {10, -10, Integer.MIN_VALUE, Integer.MAX_VALUE}) {
+        for (int number : Outside.NUMBERS) {
             CHECK.due("put " + number, x.put(0, 7, number), false);
         }
         CHECK.due("refused: the number stays", x.get(0, 7), 3);
@@ -85,7 +84,7 @@ public final class ChainsTest {
         x.put(0, 7, 3);
         CHECK.due("boundary", x.boundary(0, 3), 3);
         CHECK.due("boundary in the other complex", x.boundary(1, 3), 0);
-        for (int c : NO_COMPLEX) {
+        for (int c : Outside.COMPLEXES) {
             CHECK.due("boundary in complex " + c, x.boundary(c, 3), 0);
         }
         for (int set : NO_SIMPLEX) {
@@ -175,7 +174,7 @@ public final class ChainsTest {
     }
 
     private static void orderOfSolids() {
-        HoleCounter x = Spaces.with(new int[] {15, 23, 27, 29, 30});
+        HoleCounter x = Spaces.with(Spaces.HOLLOW);
         CHECK.due("0", x.order(0, 3), 1);
         x.put(0, 15, 1);
         CHECK.due("one solid is open", x.order(0, 3), HoleCounter.OPEN);
@@ -189,10 +188,10 @@ public final class ChainsTest {
     private static void orderRefusals() {
         HoleCounter x = Spaces.with(new int[] {3});
         x.put(0, 3, 1);
-        for (int c : NO_COMPLEX) {
+        for (int c : Outside.COMPLEXES) {
             CHECK.due("order in complex " + c, x.order(c, 1), HoleCounter.BAD);
         }
-        for (int k : new int[] {-1, 4, Integer.MIN_VALUE, Integer.MAX_VALUE}) {
+        for (int k : Outside.DIMENSIONS) {
             CHECK.due("order of dimension " + k, x.order(0, k), HoleCounter.BAD);
         }
         CHECK.due("order of an edge", x.order(0, 1), HoleCounter.OPEN);

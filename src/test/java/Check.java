@@ -1,6 +1,7 @@
 /** Counts the answers of a test that are not the ones due, and tells of each. */
 final class Check {
     private final String test;
+    private String sentence = "";
     private int right = 0;
     private int wrong = 0;
 
@@ -8,12 +9,17 @@ final class Check {
         this.test = test;
     }
 
+    /** The document's sentence that the answers from here on are due by. */
+    void under(String words) {
+        sentence = "\"" + words + "\": ";
+    }
+
     void due(String call, long got, long want) {
         if (got == want) {
             right++;
         } else {
             wrong++;
-            System.out.println(test + ": " + call + " answered " + got + ", due is " + want);
+            System.out.println(test + ": " + sentence + call + " answered " + got + ", due is " + want);
         }
     }
 

@@ -1,8 +1,5 @@
 /** Promises 1 to 7: a new object, add, clear, count, simplex, incidence and euler. */
 public final class ComplexTest {
-    private static final int[] NO_COMPLEX = {-1, 2, Integer.MIN_VALUE, Integer.MAX_VALUE};
-    private static final int[] NO_DIMENSION = {-1, 4, Integer.MIN_VALUE, Integer.MAX_VALUE};
-
     private static final Check CHECK = new Check("ComplexTest");
 
     public static void main(String[] args) {
@@ -61,7 +58,7 @@ public final class ComplexTest {
 
     private static void addRefusals() {
         HoleCounter x = Spaces.with(new int[] {7});
-        for (int c : NO_COMPLEX) {
+        for (int c : Outside.COMPLEXES) {
             CHECK.due("add to complex " + c, x.add(c, 1), HoleCounter.BAD);
         }
         for (int set : new int[] {0, -1, 256, 257, 31, 255, 0b11111000, Integer.MIN_VALUE, Integer.MAX_VALUE, 1 << 16}) {
@@ -151,7 +148,7 @@ public final class ComplexTest {
         x.put(0, 3, 4);
         x.put(1, 3, 5);
         x.map(0, 3);
-        for (int c : NO_COMPLEX) {
+        for (int c : Outside.COMPLEXES) {
             CHECK.due("clear " + c, x.clear(c), false);
         }
         CHECK.due("refused: complex 0 stays", x.count(0, 3), 1);
@@ -186,11 +183,11 @@ public final class ComplexTest {
             CHECK.due("simplex far out", x.simplex(0, k, Integer.MAX_VALUE), HoleCounter.BAD);
             CHECK.due("simplex far below", x.simplex(0, k, Integer.MIN_VALUE), HoleCounter.BAD);
         }
-        for (int c : NO_COMPLEX) {
+        for (int c : Outside.COMPLEXES) {
             CHECK.due("count in complex " + c, x.count(c, 0), HoleCounter.BAD);
             CHECK.due("simplex in complex " + c, x.simplex(c, 0, 0), HoleCounter.BAD);
         }
-        for (int k : NO_DIMENSION) {
+        for (int k : Outside.DIMENSIONS) {
             CHECK.due("count of dimension " + k, x.count(0, k), HoleCounter.BAD);
             CHECK.due("simplex of dimension " + k, x.simplex(0, k, 0), HoleCounter.BAD);
         }
@@ -215,7 +212,7 @@ public final class ComplexTest {
         CHECK.due("edge 2, 3 at 2", x.incidence(0, 1, 2, 3), -1);
         CHECK.due("edge 2, 3 at 3", x.incidence(0, 1, 3, 3), 1);
         CHECK.due("edge 2, 3 at 0", x.incidence(0, 1, 0, 3), 0);
-        for (int c : NO_COMPLEX) {
+        for (int c : Outside.COMPLEXES) {
             CHECK.due("incidence in complex " + c, x.incidence(c, 1, 0, 0), 0);
         }
         for (int k : new int[] {0, -1, 4, 5, Integer.MIN_VALUE, Integer.MAX_VALUE}) {
@@ -238,7 +235,7 @@ public final class ComplexTest {
         CHECK.due("three points", Spaces.with(new int[] {1, 2, 128}).euler(0), 3);
         HoleCounter x = Spaces.with(Spaces.OCTAHEDRON);
         CHECK.due("the other complex", x.euler(1), 0);
-        for (int c : NO_COMPLEX) {
+        for (int c : Outside.COMPLEXES) {
             CHECK.due("euler of complex " + c, x.euler(c), 0);
         }
     }

@@ -18,7 +18,7 @@ public final class HolesTest {
         space("a Klein bottle", Spaces.KLEIN, new int[] {1, 1, 0, 0}, 2);
         space("a disc on a circle, three times round", Spaces.THREEFOLD, new int[] {1, 0, 0, 0}, 3);
         space("all edges of six vertices", edgesOfSix(), new int[] {1, 10, 0, 0}, 0);
-        space("a hollow of three dimensions", new int[] {15, 23, 27, 29, 30}, new int[] {1, 0, 0, 1}, 0);
+        space("a hollow of three dimensions", Spaces.HOLLOW, new int[] {1, 0, 0, 1}, 0);
         space("a solid and a hollow tetrahedron", new int[] {15, 112, 176, 208, 224, 24}, new int[] {1, 0, 1, 0}, 0);
         changes();
         refusals();
@@ -71,12 +71,12 @@ public final class HolesTest {
 
     private static void refusals() {
         HoleCounter x = Spaces.with(Spaces.PLANE);
-        for (int bad : new int[] {-1, 2, Integer.MIN_VALUE, Integer.MAX_VALUE}) {
+        for (int bad : Outside.COMPLEXES) {
             CHECK.due("betti of complex " + bad, x.betti(bad, 0), HoleCounter.BAD);
             CHECK.due("torsion of complex " + bad, x.torsion(bad, 1, 0), HoleCounter.BAD);
             CHECK.due("bettiModulo of complex " + bad, x.bettiModulo(bad, 0, 2), HoleCounter.BAD);
         }
-        for (int bad : new int[] {-1, 4, Integer.MIN_VALUE, Integer.MAX_VALUE}) {
+        for (int bad : Outside.DIMENSIONS) {
             CHECK.due("betti of dimension " + bad, x.betti(0, bad), HoleCounter.BAD);
             CHECK.due("torsion of dimension " + bad, x.torsion(0, bad, 0), HoleCounter.BAD);
             CHECK.due("bettiModulo of dimension " + bad, x.bettiModulo(0, bad, 2), HoleCounter.BAD);

@@ -31,7 +31,7 @@ public final class MapTest {
 
     private static void mapRefusals() {
         HoleCounter x = both(new int[] {1, 128}, new int[] {1, 128});
-        for (int bad : new int[] {-1, 8, Integer.MIN_VALUE, Integer.MAX_VALUE}) {
+        for (int bad : Outside.VERTICES) {
             CHECK.due("map of " + bad, x.map(bad, 1), false);
             CHECK.due("map to " + bad, x.map(0, bad), false);
             CHECK.due("map of and to " + bad, x.map(bad, bad), false);
@@ -72,10 +72,10 @@ public final class MapTest {
 
     /** All ways to set out four vertices, each with the sign of its order. */
     private static void imageSigns() {
-        HoleCounter x = both(new int[] {15}, new int[] {15});
-        x.put(0, 15, 4);
-        x.put(0, 7, 3);
         for (int code = 0; code < 256; code++) {
+            HoleCounter x = both(new int[] {15}, new int[] {15});
+            x.put(0, 15, 4);
+            x.put(0, 7, 3);
             int[] f = {code & 3, code >> 2 & 3, code >> 4 & 3, code >> 6};
             mapAll(x, f);
             CHECK.due("image of the solid by " + code, x.image(15), 4 * sign(f, 4));
@@ -191,8 +191,7 @@ public final class MapTest {
     }
 
     private static void rankOfHollows() {
-        int[] hollow = {15, 23, 27, 29, 30};
-        HoleCounter x = both(hollow, hollow);
+        HoleCounter x = both(Spaces.HOLLOW, Spaces.HOLLOW);
         CHECK.due("a hollow of three dimensions", x.rank(3), 1);
         CHECK.due("a hollow of three dimensions: 2", x.rank(2), 0);
         mapAll(x, 1, 2, 3, 4, 0);
@@ -212,7 +211,7 @@ public final class MapTest {
 
     private static void rankRefusals() {
         HoleCounter x = both(new int[] {3}, new int[] {1});
-        for (int k : new int[] {-1, 4, Integer.MIN_VALUE, Integer.MAX_VALUE}) {
+        for (int k : Outside.DIMENSIONS) {
             CHECK.due("BAD goes before BROKEN, dimension " + k, x.rank(k), HoleCounter.BAD);
         }
         for (int k = 0; k < 4; k++) {

@@ -67,7 +67,7 @@ public final class ProductsTest {
 
     private static void refusals() {
         HoleCounter x = Spaces.with(Spaces.PLANE);
-        for (int c : new int[] {-1, 2, Integer.MIN_VALUE, Integer.MAX_VALUE}) {
+        for (int c : Outside.COMPLEXES) {
             CHECK.due("products of complex " + c, x.products(c), HoleCounter.BAD);
         }
     }

@@ -7,7 +7,7 @@ public final class RandomRunsTest {
     private static final int CALLS = 400;
     private static final int[][] SPACES = {
         Spaces.PLANE, Spaces.TORUS, Spaces.KLEIN, Spaces.THREEFOLD, Spaces.OCTAHEDRON, Spaces.SPHERE_AND_CIRCLES,
-        Spaces.CIRCLE, {15, 23, 27, 29, 30}, {15, 240}, {}
+        Spaces.CIRCLE, Spaces.HOLLOW, Spaces.CUBE, {15, 240}, {}
     };
     private static final int[] WRONG = {-1, 4, 8, 24, 100, 256, Integer.MIN_VALUE, Integer.MAX_VALUE};
 

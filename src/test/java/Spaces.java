@@ -18,6 +18,15 @@ final class Spaces {
     /** The tetrahedron 0, 1, 2, 3 without its inside, and two circles through vertex 3: Betti numbers as the torus. */
     static final int[] SPHERE_AND_CIRCLES = {7, 11, 13, 14, 24, 48, 40, 72, 192, 136};
 
+    /**
+     * The six sides of a cube, each a tetrahedron: a sphere as full as can be, with 24 edges and 24 triangles. It lacks the
+     * edges 0, 5 and 1, 4 and 2, 7 and 3, 6 across the cube alone.
+     */
+    static final int[] CUBE = {15, 240, 85, 170, 102, 153};
+
+    /** The five sides of a simplex of four dimensions. */
+    static final int[] HOLLOW = {15, 23, 27, 29, 30};
+
     /** The circle of the edges of the triangle 0, 1, 2. */
     static final int[] CIRCLE = {3, 5, 6};
 
