@@ -22,14 +22,14 @@ public final class HoleCounter {
 
     /**
      * Ranks over the fractions are taken modulo this prime. A column of a boundary has at most four entries, all 1 or
-     * -1, so by Hadamard's bound no minor of 24 columns is beyond 2^24, and with a kept chain as one more column none is
-     * beyond 2^23 * 9 * 5: below half of the prime, so a minor that is not 0 stays so, and can be read off.
+     * -1, so by Hadamard's bound no minor of 24 columns is beyond 2^24, and with a kept chain as one more column none
+     * is beyond 2^23 * 9 * 5: below half of the prime, so a minor that is not 0 stays so, and can be read off.
      */
     private static final int PRIME = 2147483647;
 
     /**
-     * The matrix of the map has 48 columns, and its minors reach 2^48 at most. Such a number, if not 0, cannot be divided
-     * by both primes, so the larger one of the two ranks is the rank over the fractions.
+     * The matrix of the map has 48 columns, and its minors reach 2^48 at most. Such a number, if not 0, cannot be
+     * divided by both primes, so the larger one of the two ranks is the rank over the fractions.
      */
     private static final int OTHER_PRIME = 2147483629;
 
@@ -570,8 +570,8 @@ public final class HoleCounter {
         }
 
         /**
-         * Answers how many pivots there are, and leaves in pivots how many of them are divided by the prime just so many
-         * times. All that stands below the pivots is divided as often as the last one, so a column that has no pivot
+         * Answers how many pivots there are, and leaves in pivots how many of them are divided by the prime just so
+         * many times. All that stands below the pivots is divided as often as the last one, so a column that has no pivot
          * for a level gets none by later steps of that level, and one sweep over the columns is enough for each.
          */
         int eliminate(int prime, int power) {
@@ -667,8 +667,8 @@ public final class HoleCounter {
         }
 
         /**
-         * Every invariant factor divides every minor of the size of the rank that is not 0, so only the powers of primes
-         * in such a minor have to be looked at. Answers the rank.
+         * Every invariant factor divides every minor of the size of the rank that is not 0, so only the powers of
+         * primes in such a minor have to be looked at. Answers the rank.
          */
         private int splitMinor() {
             int rank = eliminate(PRIME, 1);

@@ -158,10 +158,11 @@ public final class LimitsOfMapTest {
         }
         CHECK.due("eight points of 9 on one", x.image(128), 72);
         CHECK.due("none on another", x.image(1), 0);
-        HoleCounter y = both(new int[] {17, 33, 65, 129, 18, 34, 66, 130, 20, 36, 68, 132, 24, 40, 72, 136}, new int[] {192});
+        HoleCounter y = both(new int[] {}, new int[] {192});
         for (int v = 0; v < 8; v++) {
             y.map(v, v < 4 ? 7 : 6);
             for (int w = 4; w < 8 && v < 4; w++) {
+                y.add(0, 1 << v | 1 << w);
                 y.put(0, 1 << v | 1 << w, 9);
             }
         }

@@ -5,6 +5,7 @@ public final class LimitsOfTermsTest {
     public static void main(String[] args) {
         theLastOf512Questions();
         theLastOf512Changes();
+        theSameCallUpToTheLast();
         verticesAreZeroToSeven();
         complexesAreZeroAndOne();
         simplicesHaveOneToFourVertices();
@@ -27,6 +28,7 @@ public final class LimitsOfTermsTest {
         atFirstTheMapMovesNothing();
         simplicialLooksAtEveryDimension();
         imagesWithTwoTheSameAreZero();
+        ranksWithTwoTheSameAreZero();
         imagesHaveTheSignOfTheirOrder();
         rankIsTakenWithFractions();
         productsTakeTheFirstTwoAndTheLastTwo();
@@ -61,6 +63,37 @@ public final class LimitsOfTermsTest {
         }
         CHECK.due("add, call 511", x.add(1, 15), 15);
         CHECK.due("betti, call 512", x.betti(1, 0), 1);
+    }
+
+    private static void theSameCallUpToTheLast() {
+        CHECK.under("An object is used for at most 512 calls after it has been made");
+        sameCallUpToTheLast(new Call("add", 0, 33), HoleCounter.FULL);
+        sameCallUpToTheLast(new Call("add", 1, 15), 0);
+        sameCallUpToTheLast(new Call("count", 0, 2), 24);
+        sameCallUpToTheLast(new Call("simplex", 0, 2, 23), 224);
+        sameCallUpToTheLast(new Call("incidence", 0, 2, 23, 23), 1);
+        sameCallUpToTheLast(new Call("euler", 1), 2);
+        sameCallUpToTheLast(new Call("betti", 0, 2), 1);
+        sameCallUpToTheLast(new Call("torsion", 0, 1, 0), 0);
+        sameCallUpToTheLast(new Call("bettiModulo", 1, 2, 13), 1);
+        sameCallUpToTheLast(new Call("put", 1, 240, 9), 1);
+        sameCallUpToTheLast(new Call("get", 1, 240), 0);
+        sameCallUpToTheLast(new Call("boundary", 1, 224), 0);
+        sameCallUpToTheLast(new Call("order", 0, 2), 1);
+        sameCallUpToTheLast(new Call("map", 7, 7), 1);
+        sameCallUpToTheLast(new Call("simplicial"), 1);
+        sameCallUpToTheLast(new Call("image", 240), 0);
+        sameCallUpToTheLast(new Call("rank", 2), 1);
+        sameCallUpToTheLast(new Call("products", 0), 0);
+    }
+
+    private static void sameCallUpToTheLast(Call call, long want) {
+        HoleCounter x = new HoleCounter();
+        Spaces.addAll(x, 0, Spaces.CUBE);
+        Spaces.addAll(x, 1, Spaces.CUBE);
+        for (int calls = 2 * Spaces.CUBE.length; calls < 512; calls++) {
+            CHECK.due(call + ", call " + (calls + 1), call.on(x), want);
+        }
     }
 
     private static void verticesAreZeroToSeven() {
@@ -447,19 +480,45 @@ public final class LimitsOfTermsTest {
         CHECK.due("an edge to a vertex, at the edge", y.image(3), 0);
     }
 
+    private static void ranksWithTwoTheSameAreZero() {
+        CHECK.under("is 0 if two of the f(v(i)) are the same");
+        HoleCounter circle = Spaces.with(Spaces.CIRCLE);
+        Spaces.addAll(circle, 1, Spaces.CIRCLE);
+        CHECK.due("a circle to itself", circle.rank(1), 1);
+        circle.map(2, 1);
+        CHECK.due("a circle to an edge", circle.rank(1), 0);
+        HoleCounter hollow = Spaces.with(Spaces.HOLLOW);
+        Spaces.addAll(hollow, 1, Spaces.HOLLOW);
+        CHECK.due("a hollow to itself", hollow.rank(3), 1);
+        hollow.map(4, 0);
+        CHECK.due("a hollow to a tetrahedron", hollow.rank(3), 0);
+        for (int v = 0; v < 5; v++) {
+            hollow.map(v, 4);
+        }
+        CHECK.due("a hollow to a point", hollow.rank(3), 0);
+        CHECK.due("a hollow to a point: its one part", hollow.rank(0), 1);
+    }
+
     private static void imagesHaveTheSignOfTheirOrder() {
         CHECK.under("times 1 or -1, as the number of pairs i < j with f(v(i)) > f(v(j)) is even or odd");
-        int[] places = {0, 2, 5, 7};
+        imagesHaveTheSignOfTheirOrder(0, 1, 2, 3);
+        imagesHaveTheSignOfTheirOrder(0, 2, 5, 7);
+        imagesHaveTheSignOfTheirOrder(4, 5, 6, 7);
+    }
+
+    /** All 256 ways to map four vertices to these four places. */
+    private static void imagesHaveTheSignOfTheirOrder(int... places) {
+        int to = 1 << places[0] | 1 << places[1] | 1 << places[2] | 1 << places[3];
         for (int code = 0; code < 256; code++) {
             int[] f = {places[code & 3], places[code >> 2 & 3], places[code >> 4 & 3], places[code >> 6]};
             HoleCounter x = Spaces.with(new int[] {0b11010010});
-            x.add(1, 0b10100101);
+            x.add(1, to);
             x.put(0, 0b11010010, 4);
             x.map(1, f[0]);
             x.map(4, f[1]);
             x.map(6, f[2]);
             x.map(7, f[3]);
-            CHECK.due("image of 1, 4, 6, 7 by " + code, x.image(0b10100101), 4 * signOf(f));
+            CHECK.due("image of 1, 4, 6, 7 at " + to + " by " + code, x.image(to), 4 * signOf(f));
         }
     }
 
@@ -489,7 +548,7 @@ public final class LimitsOfTermsTest {
         CHECK.due("a circle twice round another", round.rank(1), 1);
     }
 
-    /** The class of the projective plane times itself is not 0, whichever vertices come first. */
+    /** Whichever vertices come first, the plane and the torus have a product that is not 0, and spheres have none. */
     private static void productsTakeTheFirstTwoAndTheLastTwo() {
         CHECK.under("gives the triangle with the vertices u < v < w the product of what a gives to u, v and b to v, w");
         for (int turn = 0; turn < 6; turn++) {
@@ -497,6 +556,10 @@ public final class LimitsOfTermsTest {
         }
         for (int turn = 0; turn < 7; turn++) {
             CHECK.due("the torus turned by " + turn, Spaces.with(turned(Spaces.TORUS, turn, 7)).products(0), 1);
+        }
+        for (int turn = 0; turn < 8; turn++) {
+            CHECK.due("the cube turned by " + turn, Spaces.with(turned(Spaces.CUBE, turn, 8)).products(0), 0);
+            CHECK.due("the disc turned by " + turn, Spaces.with(turned(Spaces.THREEFOLD, turn, 8)).products(0), 0);
         }
     }
 

@@ -9,7 +9,7 @@ public final class RefusalsTest {
     private static final Check CHECK = new Check("RefusalsTest");
 
     /** What could bring a hidden change to light: simplices come and go, numbers are kept, vertices are mapped. */
-    private static final List<Call> LATER = List.of(
+    private static final List<Call> MORE = List.of(
             new Call("add", 0, 1), new Call("add", 0, 0b10000011), new Call("add", 1, 33), new Call("put", 0, 3, 5),
             new Call("map", 7, 0), new Call("clear", 1), new Call("add", 1, 15), new Call("add", 1, 7),
             new Call("add", 1, 240));
@@ -21,6 +21,7 @@ public final class RefusalsTest {
         check("mapped", mapped(), always, refusedByMapped());
         check("broken", broken(), always, refusedByBroken());
         check("full", full(), always, refusedByFull());
+        check("full of triangles", fullOfTriangles(), always, refusedByTriangles());
         CHECK.finish();
     }
 
@@ -30,8 +31,10 @@ public final class RefusalsTest {
     private static void check(String state, List<Call> calls, List<Refusal> always, List<Refusal> here) {
         List<Refusal> refusals = new ArrayList<>(always);
         refusals.addAll(here);
+        List<Call> points = pointsAlone();
         Shown atOnce = Shown.after(calls, List.of());
-        Shown later = Shown.after(calls, LATER);
+        Shown later = Shown.after(calls, MORE);
+        Shown mapAlone = Shown.after(calls, points);
         for (Refusal refusal : refusals) {
             HoleCounter x = new HoleCounter();
             calls.forEach(call -> call.on(x));
@@ -41,13 +44,25 @@ public final class RefusalsTest {
             List<Call> refused = new ArrayList<>(calls);
             refused.add(refusal.call);
             dueSame(name, atOnce, Shown.after(refused, List.of()));
-            dueSame(name + " and more calls", later, Shown.after(refused, LATER));
+            dueSame(name + " and more calls", later, Shown.after(refused, MORE));
+            dueSame(name + " and then points alone", mapAlone, Shown.after(refused, points));
         }
     }
 
     private static void dueSame(String name, Shown without, Shown with) {
         String difference = without.difference(with);
         CHECK.due(name + ": " + difference, difference.isEmpty(), true);
+    }
+
+    /** Leaves nothing but the map, and shows where it takes each vertex, even if it was not simplicial before. */
+    private static List<Call> pointsAlone() {
+        List<Call> calls = new ArrayList<>(List.of(new Call("clear", 0), new Call("clear", 1)));
+        for (int v = 0; v < 8; v++) {
+            calls.add(new Call("add", 0, 1 << v));
+            calls.add(new Call("add", 1, 1 << v));
+            calls.add(new Call("put", 0, 1 << v, v + 1));
+        }
+        return calls;
     }
 
     private static void addAll(List<Call> calls, int c, int[] sets) {
@@ -99,6 +114,21 @@ public final class RefusalsTest {
             putAll(calls, c, new int[] {1, 3, 7, 128, 192, 224}, -1, -2, -3, -4, -5, -6);
         }
         mapAll(calls, 4, 5, 6, 7, 0, 1, 2, 3);
+        return calls;
+    }
+
+    /** 24 triangles on the first and on the last seven vertices, with room for a vertex and edges. */
+    private static List<Call> fullOfTriangles() {
+        List<Call> calls = new ArrayList<>();
+        int triangles = 0;
+        for (int set = 1; set < 128 && triangles < 24; set++) {
+            if (Integer.bitCount(set) == 3) {
+                triangles++;
+                addAll(calls, 0, new int[] {set});
+                addAll(calls, 1, new int[] {set << 1});
+            }
+        }
+        mapAll(calls, 1, 2, 3, 4, 5, 6, 7);
         return calls;
     }
 
@@ -219,6 +249,21 @@ public final class RefusalsTest {
         refuse(list, HoleCounter.OPEN, "order", 1, 2);
         refuse(list, 0, "image", 1);
         refuse(list, 0, "image", 11);
+        return list;
+    }
+
+    private static List<Refusal> refusedByTriangles() {
+        List<Refusal> list = new ArrayList<>();
+        for (int set : new int[] {0b10000011, 0b11000001, 0b11110000, 0b10000111, 0b1110000, 0b1101000}) {
+            refuse(list, HoleCounter.FULL, "add", 0, set);
+        }
+        for (int set : new int[] {0b111, 0b11000001, 0b1111, 0b10000111, 0b11100000, 0b11010000}) {
+            refuse(list, HoleCounter.FULL, "add", 1, set);
+        }
+        refuse(list, 0, "put", 0, 128, 9);
+        refuse(list, 0, "put", 0, 0b10000011, 9);
+        refuse(list, 0, "put", 1, 1, 9);
+        refuse(list, 0, "put", 1, 0b111, 9);
         return list;
     }
 
