@@ -28,8 +28,9 @@ public final class HoleCounter {
     private static final int PRIME = 2147483647;
 
     /**
-     * The matrix of the map has 48 columns, and its minors reach 2^48 at most. Such a number, if not 0, cannot be
-     * divided by both primes, so the larger one of the two ranks is the rank over the fractions.
+     * The matrix of the map has up to 48 columns of four entries, or, for tetrahedra, 24 of five, so its minors reach
+     * 2^48 at most. Such a number, if not 0, cannot be divided by both primes, so the larger one of the two ranks is
+     * the rank over the fractions.
      */
     private static final int OTHER_PRIME = 2147483629;
 
@@ -571,8 +572,8 @@ public final class HoleCounter {
 
         /**
          * Answers how many pivots there are, and leaves in pivots how many of them are divided by the prime just so
-         * many times. All that stands below the pivots is divided as often as the last one, so a column that has no pivot
-         * for a level gets none by later steps of that level, and one sweep over the columns is enough for each.
+         * many times. All that stands below the pivots is divided as often as the last one, so a column that has no
+         * pivot for a level gets none by later steps of that level, and one sweep over the columns is enough for each.
          */
         int eliminate(int prime, int power) {
             load(prime, power);
